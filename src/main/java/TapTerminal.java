@@ -273,7 +273,6 @@ public final class TapTerminal {
 
         Row(int room) {
             octets = new int[room];
-            count = 0;
         }
 
         void clear() {
@@ -346,6 +345,7 @@ public final class TapTerminal {
         }
     }
 
+    /** A card: what it is and holds, its side of the blocks, and its commands. */
     private static final class Card {
         boolean exists;
         boolean inField;
@@ -380,7 +380,6 @@ public final class TapTerminal {
         void renew(int newAddress, int newApplication, int newKey, int newSize) {
             exists = true;
             inField = false;
-            ready = false;
             address = newAddress;
             application = newApplication;
             key = newKey;
@@ -408,11 +407,14 @@ public final class TapTerminal {
             return (address ^ prefix) >>> (ADDRESS_BITS - bits) == 0;
         }
 
-        void hearSelect() {
-            number = 1;
-            heard.clear();
-            answer.clear();
-            answerFrom = 0;
+        void hearCall(int kind) {
+            if (kind == SELECT) {
+                number = 1;
+                // Half a command may be left of a run that was lost.
+                heard.clear();
+            } else if (kind == PUT_OFF) {
+                ready = false;
+            }
         }
 
         void hearBlock(Block sent) {
@@ -539,7 +541,7 @@ public final class TapTerminal {
     private static final class Air {
         final Card[] cards;
         final Journal journal;
-        // The card that the terminal has found, or NONE.
+        // The first card that answers, which is the only one once its address is found; or NONE.
         int partner;
         // The bits in which the addresses that answered ASK are not all the same.
         private int differing;
@@ -554,7 +556,6 @@ public final class TapTerminal {
             }
             journal = new Journal();
             sent = new Block();
-            partner = NONE;
         }
 
         boolean isAddressTaken(int c) {
@@ -568,7 +569,6 @@ public final class TapTerminal {
 
         void begin() {
             journal.clear();
-            partner = NONE;
             for (int c = 0; c < CARDS; c++) {
                 cards[c].ready = cards[c].inField;
             }
@@ -600,32 +600,12 @@ public final class TapTerminal {
         }
 
         boolean select() {
-            for (int attempt = 0; attempt < TRIES; attempt++) {
-                Card card = cards[partner];
-                int fault = journal.nextFault();
-                if (fault != NOT_HEARD) {
-                    card.hearSelect();
-                }
-                if (journal.note(SELECT, card.address, fault == NO_FAULT)) {
-                    turn = 0;
-                    return true;
-                }
-            }
-            return false;
+            turn = 0;
+            return call(SELECT, cards[partner].address);
         }
 
         boolean putOff() {
-            for (int attempt = 0; attempt < TRIES; attempt++) {
-                Card card = cards[partner];
-                int fault = journal.nextFault();
-                if (fault != NOT_HEARD) {
-                    card.ready = false;
-                }
-                if (journal.note(PUT_OFF, card.address, fault == NO_FAULT)) {
-                    return true;
-                }
-            }
-            return false;
+            return call(PUT_OFF, cards[partner].address);
         }
 
         /** Sends a command to the partner and takes what it answers; false if it is lost. */
@@ -674,7 +654,7 @@ public final class TapTerminal {
             }
         }
 
-        /** Finds who would answer: partner is the first of them, differing where their addresses part. */
+        /** Finds who answers to a prefix: partner is the first of them, differing where their addresses part. */
         private void gather(int prefix, int bits) {
             partner = NONE;
             differing = 0;
@@ -686,15 +666,17 @@ public final class TapTerminal {
             }
         }
 
-        /** Sends what any of the gathered cards answers, and what changes none of them. */
+        /** Sends what is no block until it is answered; false if it is not. */
         private boolean call(int kind, int number) {
-            for (int attempt = 0; attempt < TRIES; attempt++) {
-                boolean heard = partner != NONE && journal.nextFault() == NO_FAULT;
-                if (journal.note(kind, number, heard)) {
-                    return true;
+            boolean answered = false;
+            for (int attempt = 0; attempt < TRIES && !answered; attempt++) {
+                int fault = journal.nextFault();
+                if (partner != NONE && fault != NOT_HEARD) {
+                    cards[partner].hearCall(kind);
                 }
+                answered = journal.note(kind, number, partner != NONE && fault == NO_FAULT);
             }
-            return false;
+            return answered;
         }
 
         private static int leadingZeros(int octet) {

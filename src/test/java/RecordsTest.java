@@ -11,6 +11,7 @@ public final class RecordsTest {
         theFirstOneCounts();
         otherTagsDoNotCount();
         allAreReadBeforeItEnds();
+        theCardOfTheRunBeforeIsForgotten();
         Check.done();
     }
 
@@ -98,5 +99,27 @@ public final class RecordsTest {
         Check.due("run", t.run(50, 9, 200), TapTerminal.ENDED);
         Check.due("told", Scene.told(t), "[5, 0, 0, -1, 0, 0, 8, 0, 1, 3]");
         Check.due("the card was not asked to decide", Scene.look(t, 0), "[1, 90, 0, 0, 5, 3]");
+    }
+
+    private static void theCardOfTheRunBeforeIsForgotten() {
+        TapTerminal t = Scene.withGoodCard(16);
+        t.run(50, 9, 200);
+        Check.due("a card with all items", t.told(2), 0);
+        t.card(0, 90, 2, Scene.KEY, 16);
+        t.field(0, true);
+        int sign = Scene.mixOf(Scene.ISSUER, 1, 44, 0, 0, 0);
+        Scene.writeRecords(t, 0, Scene.rows(END, CODES), Scene.item(Scene.SIGN, Scene.octets(sign)));
+        t.run(50, 9, 200);
+        Check.due("a card with a sign of its own", t.told(2), 64 + 8);
+        t.card(0, 90, 2, Scene.KEY, 16);
+        t.field(0, true);
+        Check.due("a card without items", t.run(50, 9, 200), TapTerminal.ENDED);
+        Scene.writeRecords(t, 0, Scene.rows(END, CODES));
+        t.run(50, 9, 200);
+        Check.due("a card without place, ways and sign", t.told(2), 64 + 8 + 1);
+        t.write(0, 1, 9);
+        Check.due("a card with an item that is not whole", t.run(50, 9, 200), TapTerminal.ENDED);
+        t.write(0, 1, 0);
+        Check.due("the item is whole", t.run(50, 9, 200), TapTerminal.APPROVE);
     }
 }
