@@ -4,6 +4,8 @@ public final class BlocksTest {
 
     public static void main(String[] args) {
         sizesSplitRows();
+        everySizeSplitsEveryRow();
+        everySizeCarriesWhatIsSent();
         fullRecordsAreSplit();
         emptyRecordsAreOneBlock();
         unheardCommandIsSentAgain();
@@ -18,6 +20,10 @@ public final class BlocksTest {
         halfACommandIsForgottenAtSelect();
         aCommandIsDoneOnce();
         exchangesAbove127HaveNoFaults();
+        theFaultOf127IsTheLast();
+        oneFaultAnywhereIsRepaired();
+        twoFaultsInARowAnywhereAreRepaired();
+        threeFaultsInARowAnywhereEndTheRun();
         Check.done();
     }
 
@@ -45,6 +51,42 @@ public final class BlocksTest {
         dueTrace("size 4", Scene.withGoodCard(4), 2, "I0 I1 I0 I1 ACK0 ACK1 ACK0 I1 ACK0 ACK1 I0 I1 I0 ACK1");
         dueTrace("size 3", Scene.withGoodCard(3), 2,
                 "I0 I1 I0 I1 ACK0 ACK1 ACK0 ACK1 I0 ACK1 ACK0 ACK1 I0 I1 I0 I1 ACK0 ACK1");
+    }
+
+    /** "The last one shorter, or empty if the row is": rows of 0 to 24 OCTETS in BLOCKS of 3 to 16. */
+    private static void everySizeSplitsEveryRow() {
+        for (int size = 3; size <= 16; size++) {
+            for (int length = 0; length <= 24; length++) {
+                TapTerminal t = Scene.withCard(size, new int[length], new int[] {9, 0});
+                t.run(50, 9, 200);
+                String command2 = "I".repeat(blocks(5, size));
+                String answers = "I" + "A".repeat(blocks(length, size) - 1);
+                Check.due(length + " octets at size " + size, Scene.trace(t), BEGIN + numbered("I" + command2 + answers + "I"));
+            }
+        }
+    }
+
+    private static int blocks(int length, int size) {
+        return length == 0 ? 1 : (length + size - 1) / size;
+    }
+
+    /** Each letter stands for an I or an ACK; their numbers turn with every answer. */
+    private static String numbered(String letters) {
+        StringBuilder text = new StringBuilder();
+        for (int i = 0; i < letters.length(); i++) {
+            text.append(i == 0 ? "" : " ").append(letters.charAt(i) == 'I' ? "I" : "ACK").append(i % 2);
+        }
+        return text.toString();
+    }
+
+    private static void everySizeCarriesWhatIsSent() {
+        for (int size = 3; size <= 16; size++) {
+            TapTerminal t = Scene.withGoodCard(size);
+            t.run(0x12345670, 0x7A8B9CAD, 200);
+            int mix = Scene.mixOf(Scene.KEY, 1, 1, 0x12345670, 0x7A8B9CAD, 16);
+            Check.due("findings at size " + size, t.told(2), 16);
+            Check.due("the mix said at size " + size, t.told(5), mix);
+        }
     }
 
     private static void fullRecordsAreSplit() {
@@ -166,5 +208,99 @@ public final class BlocksTest {
         Check.due("the last one noted had no answer", t.exchange(127, 2), 0);
         Check.due("one above 127", t.exchange(128, 0), -1);
         Check.due("commands", t.look(0, 4), 5);
+    }
+
+    /** "(Those above 127 have none.)": 126 and 127 are not answered, and the third in a row is. */
+    private static void theFaultOf127IsTheLast() {
+        TapTerminal t = Scene.withRunOf128();
+        withFaults(t, 125, 0, 1, 2);
+        Check.due("run", t.run(50, 9, 200), TapTerminal.APPROVE);
+        Check.due("126", t.exchange(126, 2), 0);
+        Check.due("127", t.exchange(127, 2), 0);
+        withFaults(t, 125, 1, 1, 2);
+        Check.due("three to 127", t.run(50, 9, 200), TapTerminal.LOST);
+        Check.due("exchanges", t.told(6), 128);
+    }
+
+    /** CARD 0 is chosen behind CARD 1, which is put off, so that there is every kind of EXCHANGE. */
+    private static TapTerminal withEveryKind(int size) {
+        TapTerminal t = Scene.withGoodCard(size);
+        t.card(1, 89, 1, 1, size);
+        t.field(1, true);
+        return t;
+    }
+
+    private static int exchangesWithoutFaults(int size) {
+        TapTerminal t = withEveryKind(size);
+        t.run(50, 9, 200);
+        return t.told(6);
+    }
+
+    private static void dueRepaired(String what, TapTerminal t, int silent) {
+        Check.due(what, t.run(50, 9, 200), TapTerminal.APPROVE);
+        Check.due(what + ", findings", t.told(2), 0);
+        Check.due(what + ", the counter said", t.told(4), 1);
+        Check.due(what + ", the mix said", t.told(5), Scene.mixOf(Scene.KEY, 2, 1, 50, 9, 0));
+        Check.due(what + ", without an answer", t.told(7), silent);
+        Check.due(what + ", the card", Scene.look(t, 0), "[1, 90, 1, 1, 5, 2]");
+        Check.due(what + ", the card put off", Scene.look(t, 1), "[1, 89, 0, 0, 1, 0]");
+    }
+
+    /** Nothing is left of a run that was lost but the COUNTER, if the CARD had heard COMMAND 4. */
+    private static void dueWholeRun(String what, TapTerminal t) {
+        int counter = t.look(0, 2) + 1;
+        Check.due(what, t.run(50, 9, 200), TapTerminal.APPROVE);
+        Check.due(what + ", findings", t.told(2), 0);
+        Check.due(what + ", the counter said", t.told(4), counter);
+        Check.due(what + ", the mix said", t.told(5), Scene.mixOf(Scene.KEY, 2, counter, 50, 9, 0));
+        Check.due(what + ", without an answer", t.told(7), 0);
+    }
+
+    private static void oneFaultAnywhereIsRepaired() {
+        for (int size = 3; size <= 16; size++) {
+            int exchanges = exchangesWithoutFaults(size);
+            for (int n = 0; n < exchanges; n++) {
+                for (int kind = 1; kind <= 2; kind++) {
+                    String what = "size " + size + ", fault " + kind + " at " + n;
+                    dueRepaired(what, withFaults(withEveryKind(size), n, kind), 1);
+                }
+            }
+        }
+    }
+
+    private static void twoFaultsInARowAnywhereAreRepaired() {
+        for (int size = 3; size <= 16; size++) {
+            int exchanges = exchangesWithoutFaults(size);
+            for (int n = 0; n < exchanges; n++) {
+                for (int kinds = 0; kinds < 4; kinds++) {
+                    int first = 1 + kinds / 2;
+                    int second = 1 + kinds % 2;
+                    String what = "size " + size + ", faults " + first + " and " + second + " from " + n;
+                    dueRepaired(what, withFaults(withEveryKind(size), n, first, second), 2);
+                }
+            }
+        }
+    }
+
+    /** WAKE, and ASK without a PREFIX, end with NO CARD, all others LOST. */
+    private static void threeFaultsInARowAnywhereEndTheRun() {
+        for (int size = 3; size <= 16; size++) {
+            int exchanges = exchangesWithoutFaults(size);
+            for (int n = 0; n < exchanges; n++) {
+                for (int kinds = 0; kinds < 8; kinds++) {
+                    TapTerminal t = withEveryKind(size);
+                    withFaults(t, n, 1 + kinds / 4, 1 + kinds / 2 % 2, 1 + kinds % 2);
+                    int ending = t.run(50, 9, 200);
+                    boolean noCard = t.exchange(n, 0) == 1 || t.exchange(n, 0) == 2 && t.exchange(n, 1) == 0;
+                    String what = "size " + size + ", three faults from " + n;
+                    Check.due(what, ending, noCard ? TapTerminal.NO_CARD : TapTerminal.LOST);
+                    Check.due(what + ", exchanges", t.told(6), n + 3);
+                    Check.due(what + ", without an answer", t.told(7), 3);
+                    Check.due(what + ", the mix said", t.told(5), 0);
+                    withFaults(t, n, 0, 0, 0);
+                    dueWholeRun(what + ", the run behind it", t);
+                }
+            }
+        }
     }
 }

@@ -3,16 +3,20 @@ public final class ChoosingTest {
     public static void main(String[] args) {
         asksBitByBit();
         asksDownToTheLastBit();
+        asksForEachPair();
         choosesTheApplicationThatGoes();
         putsOffForOneRunOnly();
         cardsOutsideTakeNoPart();
         wakeIsTriedThrice();
         askIsTriedThrice();
+        askBehindPutOffIsTriedThrice();
         askWithAPrefixIsLost();
         selectIsTriedThrice();
         putOffIsTriedThrice();
         putOffIsAnsweredWhenHeardAgain();
         selectHeardTwiceBeginsOnce();
+        fourCardsArePutOff();
+        threeInARowCountFromTheLatestAnswer();
         Check.done();
     }
 
@@ -47,6 +51,21 @@ public final class ChoosingTest {
         t.takes(255);
         t.run(1, 1, 1);
         Check.due("the first bit", Scene.trace(t), "WAKE0 ASK0 ASK1 SELECT0 I0 I1");
+    }
+
+    /** The PREFIX has 1 to 8 bits: those before the highest bit in which two ADDRESSES part, and a 0. */
+    private static void asksForEachPair() {
+        for (int low = 0; low < 256; low++) {
+            for (int high = low + 1; high < 256; high++) {
+                TapTerminal t = cardsAt(high, low);
+                t.takes(255);
+                t.run(1, 1, 1);
+                int bits = Integer.numberOfLeadingZeros(low ^ high) - 23;
+                Check.due("the least of " + low + " and " + high, t.told(1), 1);
+                Check.due("bits for " + low + " and " + high, t.exchange(2, 1), bits);
+                Check.due("select of " + low + " and not " + high, t.exchange(3, 1), low);
+            }
+        }
     }
 
     private static void choosesTheApplicationThatGoes() {
@@ -109,6 +128,19 @@ public final class ChoosingTest {
         Check.due("trace", Scene.trace(t), "WAKE0 ASK0- ASK0- ASK0-");
     }
 
+    /** The CARD that is left does not hear: to the terminal none is left. */
+    private static void askBehindPutOffIsTriedThrice() {
+        TapTerminal t = cardsAt(10, 20);
+        t.takes(2);
+        t.fault(6, 1);
+        t.fault(7, 2);
+        Check.due("two are not answered", t.run(1, 1, 1), TapTerminal.ENDED);
+        Check.due("trace", Scene.trace(t), "WAKE0 ASK0 ASK4 SELECT10 I0 OFF10 ASK0- ASK0- ASK0 SELECT20 I0 I1");
+        t.fault(8, 1);
+        Check.due("three are not answered", t.run(1, 1, 1), TapTerminal.NO_CARD);
+        Check.due("trace of three", Scene.trace(t), "WAKE0 ASK0 ASK4 SELECT10 I0 OFF10 ASK0- ASK0- ASK0-");
+    }
+
     private static void askWithAPrefixIsLost() {
         TapTerminal t = cardsAt(10, 11);
         t.takes(1);
@@ -168,5 +200,26 @@ public final class ChoosingTest {
         t.fault(2, 2);
         Check.due("the next run", t.run(50, 9, 200), TapTerminal.APPROVE);
         Check.due("trace", Scene.trace(t), "WAKE0 ASK0 SELECT90- SELECT90 I0 I1 I0 I1 I0");
+    }
+
+    private static void fourCardsArePutOff() {
+        TapTerminal t = cardsAt(0, 64, 128, 192);
+        t.takes(240);
+        Check.due("run", t.run(1, 1, 1), TapTerminal.NO_CARD);
+        Check.due("trace", Scene.trace(t), "WAKE0 ASK0 ASK1 ASK2 SELECT0 I0 OFF0 ASK0 ASK1 SELECT64 I0 OFF64"
+                + " ASK0 ASK2 SELECT128 I0 OFF128 ASK0 SELECT192 I0 OFF192 ASK0- ASK0- ASK0-");
+        Check.due("told", Scene.told(t), "[3, -1, 0, -1, 0, 0, 24, 3, 4, 0]");
+    }
+
+    /** Two in a row of each kind are not answered, eight in all, and never three in a row. */
+    private static void threeInARowCountFromTheLatestAnswer() {
+        TapTerminal t = cardsAt(10);
+        t.takes(1);
+        for (int n = 0; n < 12; n++) {
+            t.fault(n, n % 3 == 2 ? 0 : 1 + n % 2);
+        }
+        Check.due("run", t.run(1, 1, 1), TapTerminal.ENDED);
+        Check.due("trace", Scene.trace(t), "WAKE0- WAKE0- WAKE0 ASK0- ASK0- ASK0 SELECT10- SELECT10- SELECT10"
+                + " I0- NAK0- NAK0 I1");
     }
 }

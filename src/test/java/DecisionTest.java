@@ -8,7 +8,8 @@ public final class DecisionTest {
         everyBitCounts();
         capDeclines();
         limitSendsOnline();
-        greatestLimitIsReached();
+        runsAreTheLimitOrMore();
+        limitIsForApprovalsAlone();
         onlyApprovalsCount();
         counterNeedsBothOctets();
         mixIsOfWhatItSays();
@@ -86,6 +87,31 @@ public final class DecisionTest {
         }
     }
 
+    /** "If RUNS is its LIMIT or more": one below, at, and one above three RUNS. */
+    private static void runsAreTheLimitOrMore() {
+        int[] due = {TapTerminal.ONLINE, TapTerminal.ONLINE, TapTerminal.APPROVE};
+        for (int limit = 2; limit <= 4; limit++) {
+            TapTerminal t = withCodes(0, 0, 0, true);
+            for (int n = 0; n < 3; n++) {
+                t.run(50, 9, 200);
+            }
+            t.allow(0, MAX, limit);
+            Check.due("limit " + limit + " with 3 runs", t.run(50, 9, 200), due[limit - 2]);
+            Check.due("runs with limit " + limit, t.look(0, 3), limit == 4 ? 4 : 0);
+        }
+    }
+
+    private static void limitIsForApprovalsAlone() {
+        TapTerminal t = withCodes(64, 0, 0, true);
+        t.allow(0, MAX, 0);
+        Check.due("a refusal at the limit", t.run(50, 9, 200), TapTerminal.DECLINE);
+        t = withCodes(0, 0, 0, true);
+        t.run(50, 9, 200);
+        t.allow(0, 49, 0);
+        Check.due("above the cap and at the limit", t.run(50, 9, 200), TapTerminal.DECLINE);
+        Check.due("runs stay", t.look(0, 3), 1);
+    }
+
     private static void onlyApprovalsCount() {
         TapTerminal t = withCodes(2, 16, 0, true);
         t.run(50, 9, 200);
@@ -103,21 +129,13 @@ public final class DecisionTest {
         TapTerminal t = withCodes(1, 0, 0, true);
         for (int n = 1; n <= 300; n++) {
             t.run(50, 9, 200);
+            if (n >= 254 && n <= 258) {
+                Check.due("the counter said at " + n, t.told(4), n);
+            }
         }
         Check.due("the counter said", t.told(4), 300);
         Check.due("the card's", t.look(0, 2), 300);
         Check.due("its mix", t.told(5), Scene.mixOf(Scene.KEY, 0, 300, 50, 9, 73));
-    }
-
-    /** The greatest LIMIT lets 255 approvals pass. */
-    private static void greatestLimitIsReached() {
-        TapTerminal t = withCodes(0, 0, 0, true);
-        for (int n = 1; n <= 255; n++) {
-            Check.due("approval " + n, t.run(50, 9, 200), TapTerminal.APPROVE);
-        }
-        Check.due("runs", t.look(0, 3), 255);
-        Check.due("the run behind them", t.run(50, 9, 200), TapTerminal.ONLINE);
-        Check.due("runs behind it", t.look(0, 3), 0);
     }
 
     private static void mixIsOfWhatItSays() {

@@ -6,6 +6,7 @@ public final class FindingsTest {
     public static void main(String[] args) {
         signIsTheMixOfWhatIsThere();
         signOfAnotherLengthIsNone();
+        signOfNothingIsNone();
         signBelongsToTheIssuer();
         endIsLessThanTheDay();
         placeIsThatOfTheTerminal();
@@ -74,6 +75,23 @@ public final class FindingsTest {
         Check.due("first ways of 3 octets", findings(50, 9, 200, ways), 64 + 8 + 1);
     }
 
+    /** With this issuer's key the MIX is 0; a SIGN that is not there is not 0. */
+    private static void signOfNothingIsNone() {
+        int issuer = 920373925;
+        int[] items = Scene.rows(Scene.item(Scene.END, 1, 44), Scene.item(Scene.CODES, 0, 0, 0));
+        Check.due("the mix", Scene.mixOf(issuer, 1, 44, 0, 0, 0), 0);
+        for (int length = 0; length <= 5; length++) {
+            TapTerminal t = Scene.withCard(16, items, Scene.item(Scene.SIGN, new int[length]));
+            t.terminal(1, 100, 4, true, issuer);
+            t.run(50, 9, 200);
+            Check.due("a sign of " + length + " times 0", t.told(2) & 1, length == 4 ? 0 : 1);
+        }
+        TapTerminal t = Scene.withCard(16, items);
+        t.terminal(1, 100, 4, true, issuer);
+        t.run(50, 9, 200);
+        Check.due("no sign", t.told(2) & 1, 1);
+    }
+
     private static void signBelongsToTheIssuer() {
         TapTerminal t = Scene.withCard(16, good());
         t.terminal(1, 100, 4, true, Scene.ISSUER + 1);
@@ -86,13 +104,22 @@ public final class FindingsTest {
         Check.due("behind the end", findings(50, 9, 301, good()), 2);
         Check.due("the least day", findings(50, 9, MIN, good()), 0);
         Check.due("the greatest day", findings(50, 9, MAX, good()), 2);
+        int[][] first = signed(new int[] {0, 0}, new int[] {1}, GOOD_WAYS);
+        Check.due("before the first end", findings(50, 9, -1, first), 0);
+        Check.due("at the first end", findings(50, 9, 0, first), 0);
+        Check.due("behind the first end", findings(50, 9, 1, first), 2);
+        int[][] carried = signed(new int[] {1, 0}, new int[] {1}, GOOD_WAYS);
+        Check.due("before an end of 256", findings(50, 9, 255, carried), 0);
+        Check.due("at an end of 256", findings(50, 9, 256, carried), 0);
+        Check.due("behind an end of 256", findings(50, 9, 257, carried), 2);
         int[][] last = signed(new int[] {255, 255}, new int[] {1}, GOOD_WAYS);
         Check.due("at the last end", findings(50, 9, 65535, last), 0);
         Check.due("behind the last end", findings(50, 9, 65536, last), 2);
     }
 
     private static void placeIsThatOfTheTerminal() {
-        Check.due("another place", findings(50, 9, 200, signed(new int[] {1, 44}, new int[] {2}, GOOD_WAYS)), 4);
+        Check.due("one below", findings(50, 9, 200, signed(new int[] {1, 44}, new int[] {0}, GOOD_WAYS)), 4);
+        Check.due("one above", findings(50, 9, 200, signed(new int[] {1, 44}, new int[] {2}, GOOD_WAYS)), 4);
         TapTerminal t = Scene.withCard(16, signed(new int[] {1, 44}, new int[] {255}, GOOD_WAYS));
         t.terminal(255, 100, 4, true, Scene.ISSUER);
         t.run(50, 9, 200);
@@ -100,8 +127,9 @@ public final class FindingsTest {
     }
 
     private static void floorIsReached() {
-        Check.due("below the floor", findings(99, 9, 200, good()), 0);
+        Check.due("one below the floor", findings(99, 9, 200, good()), 0);
         Check.due("at the floor", findings(100, 9, 200, good()), 16);
+        Check.due("one above the floor", findings(101, 9, 200, good()), 16);
         Check.due("the greatest amount", findings(MAX, 9, 200, good()), 16);
         Check.due("the least amount", findings(MIN, 9, 200, good()), 0);
         TapTerminal t = Scene.withCard(16, good());
@@ -114,6 +142,7 @@ public final class FindingsTest {
         for (int random = 1; random < 8; random++) {
             Check.due("random " + random, findings(50, random, 200, good()), 0);
         }
+        Check.due("the greatest random", findings(50, MAX, 200, good()), 0);
         Check.due("random 0", findings(50, 0, 200, good()), 32);
         Check.due("random 8", findings(50, 8, 200, good()), 32);
         Check.due("random -8", findings(50, -8, 200, good()), 32);
@@ -156,9 +185,15 @@ public final class FindingsTest {
     private static void waysGoWhen() {
         dueWay("when 1 below the floor", false, 99, 0, 1);
         dueWay("when 1 at the floor", true, 100, 0, 1);
+        dueWay("when 1 above the floor", true, 101, 0, 1);
         dueWay("when 2 below the floor", true, 99, 0, 2);
         dueWay("when 2 at the floor", false, 100, 0, 2);
+        dueWay("when 2 above the floor", false, 101, 0, 2);
+        dueWay("when 0 below the floor", true, 99, 0, 0);
+        dueWay("when 0 at the floor", true, 100, 0, 0);
+        dueWay("when 0 above the floor", true, 101, 0, 0);
         dueWay("when 3", false, 50, 0, 3);
+        dueWay("when 3 at the floor", false, 100, 0, 3);
         dueWay("when 128", false, 50, 0, 128);
         dueWay("when 255", false, 50, 0, 255);
     }

@@ -6,6 +6,8 @@ public final class NewObjectTest {
         hasNoFaults();
         takesNoApplications();
         hasTheSettingsOfANewOne();
+        hasNoWays();
+        isLikeEveryOther();
         Check.done();
     }
 
@@ -55,5 +57,29 @@ public final class NewObjectTest {
         Check.due("findings below the floor", t.told(2), 0);
         Check.due("run at the floor", t.run(0, 1, 9), TapTerminal.ONLINE);
         Check.due("findings at the floor", t.told(2), 8 + 16);
+    }
+
+    private static void hasNoWays() {
+        for (int way = 1; way <= 7; way++) {
+            TapTerminal t = new TapTerminal();
+            t.takes(1);
+            t.card(0, 1, 0, 0, 16);
+            t.field(0, true);
+            Scene.writeRecords(t, 0, Scene.item(1, 0, 9), Scene.item(3, way, 0), Scene.item(4, 0, 0, 0));
+            t.run(-1, 1, 9);
+            Check.due("way " + way, t.told(2) & 8, 8);
+        }
+    }
+
+    /** What was done to one object is not seen in another. */
+    private static void isLikeEveryOther() {
+        TapTerminal used = Scene.withGoodCard(16);
+        used.fault(0, 1);
+        used.run(50, 9, 200);
+        ranNothing();
+        hasNoCards();
+        hasNoFaults();
+        takesNoApplications();
+        hasTheSettingsOfANewOne();
     }
 }

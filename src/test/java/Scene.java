@@ -32,6 +32,34 @@ final class Scene {
         return withCard(size, goodFirst(), goodSecond());
     }
 
+    /**
+     * A run of the good card has 8 EXCHANGES; here it has one more for each WAKE (up to two) that is not heard, and three
+     * more for each round in which COMMAND 1 and a NAK are not heard, and the next NAK is.
+     */
+    private static TapTerminal withRunOf(int wakes, int rounds) {
+        TapTerminal t = withGoodCard(16);
+        for (int n = 0; n < wakes; n++) {
+            t.fault(n, 1);
+        }
+        for (int round = 0; round < rounds; round++) {
+            t.fault(wakes + 3 + 3 * round, 1);
+            t.fault(wakes + 4 + 3 * round, 1);
+        }
+        return t;
+    }
+
+    static TapTerminal withRunOf127() {
+        return withRunOf(2, 39);
+    }
+
+    static TapTerminal withRunOf128() {
+        return withRunOf(0, 40);
+    }
+
+    static TapTerminal withRunOf129() {
+        return withRunOf(1, 40);
+    }
+
     static int[] goodFirst() {
         return rows(item(END, 1, 44), item(PLACE, 1), item(WAYS, 130, 1, 0, 0));
     }
@@ -70,9 +98,11 @@ final class Scene {
     /** The EXCHANGES of the latest run that can be asked for, a - behind those without an answer. */
     static String trace(TapTerminal t) {
         StringBuilder text = new StringBuilder();
-        for (int n = 0; t.exchange(n, 0) != TapTerminal.REFUSED; n++) {
-            text.append(n == 0 ? "" : " ").append(KINDS[t.exchange(n, 0)]).append(t.exchange(n, 1));
+        int kind = t.exchange(0, 0);
+        for (int n = 0; kind != TapTerminal.REFUSED; kind = t.exchange(n, 0)) {
+            text.append(n == 0 ? "" : " ").append(KINDS[kind]).append(t.exchange(n, 1));
             text.append(t.exchange(n, 2) == 1 ? "" : "-");
+            n++;
         }
         return text.toString();
     }

@@ -1,16 +1,30 @@
-/** Promises 10 to 12: told, exchange and look. */
+/** Promises 10 to 12: told, exchange and look. What they refuse is in RefusedTest too. */
 public final class ToldTest {
     public static void main(String[] args) {
+        toldBeforeARun();
         toldTellsTheLatestRun();
         toldForgetsTheRunBefore();
-        toldRefuses();
+        toldOfARunWithoutACard();
+        toldOfARunWithoutFindings();
+        toldOfARunWithoutAnAnswerToCommand4();
+        toldCountsCardsThatAnswered();
+        toldCountsRecordsReadAsAWhole();
+        toldCountsExchangesAbove127();
+        exchangeBeforeARun();
         exchangeTellsEachKind();
-        exchangeRefuses();
+        exchangeTellsTheFirstAndTheLast();
+        exchangeTellsThoseTo127();
         exchangeForgetsTheRunBefore();
         lookTells();
         lookCountsRecords();
-        lookRefuses();
+        lookCountsCommandsOnce();
         Check.done();
+    }
+
+    /** "-1 if there was none", and what stands for a run that came to nothing. */
+    private static void toldBeforeARun() {
+        Check.due("told", Scene.told(new TapTerminal()), "[-1, -1, 0, -1, 0, 0, 0, 0, 0, 0]");
+        Check.due("told with a card", Scene.told(Scene.withGoodCard(16)), "[-1, -1, 0, -1, 0, 0, 0, 0, 0, 0]");
     }
 
     private static void toldTellsTheLatestRun() {
@@ -35,13 +49,95 @@ public final class ToldTest {
         Check.due("told", Scene.told(t), "[3, -1, 0, -1, 0, 0, 3, 3, 0, 0]");
     }
 
-    private static void toldRefuses() {
+    /** "1: the CARD CHOSEN, -1 if none": put off, or lost before its APPLICATION is heard. */
+    private static void toldOfARunWithoutACard() {
         TapTerminal t = Scene.withGoodCard(16);
-        Check.due("told -1 before a run", t.told(-1), -1);
+        t.takes(251);
+        t.run(50, 9, 200);
+        Check.due("put off", Scene.told(t), "[3, -1, 0, -1, 0, 0, 8, 3, 1, 0]");
+        t.takes(4);
+        for (int n = 3; n <= 5; n++) {
+            t.fault(n, 2);
+        }
+        t.run(50, 9, 200);
+        Check.due("lost", Scene.told(t), "[4, -1, 0, -1, 0, 0, 6, 3, 1, 0]");
+    }
+
+    /** "2 is 0 if it did not come to that", and "3: the type asked for, -1 if none was". */
+    private static void toldOfARunWithoutFindings() {
+        TapTerminal t = Scene.withEmptyCard(16);
+        t.run(100, 8, 65536);
+        Check.due("told", Scene.told(t), "[5, 0, 0, -1, 0, 0, 5, 0, 1, 0]");
+    }
+
+    /** "4 ... 5 ... (0 if COMMAND 4 was not answered)": not even if a run before it was. */
+    private static void toldOfARunWithoutAnAnswerToCommand4() {
+        TapTerminal t = Scene.withGoodCard(16);
         t.run(100, 8, 200);
-        Check.due("told -1", t.told(-1), -1);
-        Check.due("told 10", t.told(10), -1);
-        Check.due("told of the greatest", t.told(Integer.MAX_VALUE), -1);
+        for (int n = 7; n <= 9; n++) {
+            t.fault(n, 2);
+        }
+        t.run(100, 8, 200);
+        Check.due("told", Scene.told(t), "[4, 0, 48, 1, 0, 0, 10, 3, 1, 2]");
+        Check.due("the card's counter", t.look(0, 2), 2);
+    }
+
+    /** Four CARDS can be SELECTED; one whose answer to SELECT is not heard does not count. */
+    private static void toldCountsCardsThatAnswered() {
+        TapTerminal t = new TapTerminal();
+        Check.due("none", toldBehindRun(t, 8), 0);
+        for (int c = 0; c <= 3; c++) {
+            t.card(c, c, c, c, 3);
+            t.field(c, true);
+            Check.due("with card " + c, toldBehindRun(t, 8), c + 1);
+        }
+        for (int n = 5; n <= 7; n++) {
+            t.fault(n, 2);
+        }
+        t.run(1, 1, 1);
+        Check.due("lost at command 1", t.told(0), TapTerminal.LOST);
+        Check.due("one answered before it was lost", t.told(8), 1);
+        for (int n = 4; n <= 6; n++) {
+            t.fault(n, 2);
+        }
+        Check.due("lost at select", toldBehindRun(t, 8), 0);
+    }
+
+    private static int toldBehindRun(TapTerminal t, int what) {
+        t.run(1, 1, 1);
+        return t.told(what);
+    }
+
+    /** "9: RECORDS read as a whole": 0 to 3 of them, empty ones too, and not the one that was lost in its midst. */
+    private static void toldCountsRecordsReadAsAWhole() {
+        Check.due("none", toldBehindRun(Scene.withEmptyCard(3), 9), 0);
+        int[] two = {9, 0};
+        int[] four = {9, 2, 9, 9};
+        Check.due("one", toldBehindRun(Scene.withCard(3, two), 9), 1);
+        Check.due("two, the first of them empty", toldBehindRun(Scene.withCard(3, new int[0], two), 9), 2);
+        Check.due("three", toldBehindRun(Scene.withCard(3, two, two, two), 9), 3);
+        TapTerminal t = Scene.withCard(3, two, four);
+        for (int n = 8; n <= 10; n++) {
+            t.fault(n, 1);
+        }
+        Check.due("the second one is lost in its midst", toldBehindRun(t, 9), 1);
+        Check.due("the last sent was its ACK", t.exchange(10, 0), 6);
+    }
+
+    private static void toldCountsExchangesAbove127() {
+        Check.due("127", toldBehindRun(Scene.withRunOf127(), 6), 127);
+        Check.due("128", toldBehindRun(Scene.withRunOf128(), 6), 128);
+        Check.due("129", toldBehindRun(Scene.withRunOf129(), 6), 129);
+        TapTerminal t = Scene.withRunOf129();
+        Check.due("without an answer", toldBehindRun(t, 7), 81);
+    }
+
+    private static void exchangeBeforeARun() {
+        TapTerminal t = Scene.withGoodCard(16);
+        for (int what = 0; what <= 2; what++) {
+            Check.due("the first, " + what, t.exchange(0, what), TapTerminal.REFUSED);
+            Check.due("the last, " + what, t.exchange(127, what), TapTerminal.REFUSED);
+        }
     }
 
     private static void exchangeTellsEachKind() {
@@ -59,16 +155,38 @@ public final class ToldTest {
         Check.due("exchanges", t.told(6), 21);
     }
 
-    private static void exchangeRefuses() {
+    private static void exchangeTellsTheFirstAndTheLast() {
         TapTerminal t = Scene.withGoodCard(16);
+        t.fault(7, 2);
         t.run(50, 9, 200);
         Check.due("the first", t.exchange(0, 0), 1);
-        Check.due("the last", t.exchange(7, 0), 5);
-        Check.due("one behind the last", t.exchange(8, 0), -1);
-        Check.due("exchange -1", t.exchange(-1, 0), -1);
-        Check.due("exchange 128", t.exchange(128, 0), -1);
-        Check.due("what -1", t.exchange(0, -1), -1);
-        Check.due("what 3", t.exchange(0, 3), -1);
+        Check.due("one before the first", t.exchange(-1, 0), TapTerminal.REFUSED);
+        Check.due("the one before the last", t.exchange(7, 0), 5);
+        Check.due("its answer", t.exchange(7, 2), 0);
+        Check.due("the last", t.exchange(8, 0), 7);
+        Check.due("its answer", t.exchange(8, 2), 1);
+        Check.due("one behind the last", t.exchange(9, 0), TapTerminal.REFUSED);
+        Check.due("one behind the last, its answer", t.exchange(9, 2), TapTerminal.REFUSED);
+    }
+
+    /** "Of EXCHANGE n (0..127)": also of runs that have as many, or more. */
+    private static void exchangeTellsThoseTo127() {
+        TapTerminal t = Scene.withRunOf127();
+        t.run(50, 9, 200);
+        Check.due("126 of 127", t.exchange(126, 0), 5);
+        Check.due("127 of 127", t.exchange(127, 0), TapTerminal.REFUSED);
+        t = Scene.withRunOf128();
+        t.run(50, 9, 200);
+        Check.due("127 of 128", t.exchange(127, 0), 5);
+        Check.due("127 of 128, its number", t.exchange(127, 1), 0);
+        Check.due("127 of 128, its answer", t.exchange(127, 2), 1);
+        t = Scene.withRunOf129();
+        t.run(50, 9, 200);
+        Check.due("the first of 129", t.exchange(0, 2), 0);
+        Check.due("127 of 129", t.exchange(127, 1), 1);
+        for (int what = 0; what <= 2; what++) {
+            Check.due("128 of 129, " + what, t.exchange(128, what), TapTerminal.REFUSED);
+        }
     }
 
     private static void exchangeForgetsTheRunBefore() {
@@ -77,7 +195,8 @@ public final class ToldTest {
         t.field(0, false);
         t.run(50, 9, 200);
         Check.due("trace", Scene.trace(t), "WAKE0- WAKE0- WAKE0-");
-        Check.due("one of the run before", t.exchange(5, 0), -1);
+        Check.due("one of the run before", t.exchange(3, 0), TapTerminal.REFUSED);
+        Check.due("the last one of the run before", t.exchange(7, 0), TapTerminal.REFUSED);
     }
 
     private static void lookTells() {
@@ -90,23 +209,30 @@ public final class ToldTest {
         Check.due("out of the field", Scene.look(t, 0), "[0, 90, 2, 2, 10, 2]");
     }
 
+    /** "One more than the greatest number of one that is not empty, 0 if all are": each set of RECORDS. */
     private static void lookCountsRecords() {
-        TapTerminal t = Scene.withEmptyCard(16);
-        Check.due("no records", t.look(0, 5), 0);
-        t.write(0, 1, 0);
-        Check.due("record 1", t.look(0, 5), 2);
-        t.write(0, 0, 0);
-        Check.due("records 0 and 1", t.look(0, 5), 2);
-        t.write(0, 2, 0);
-        Check.due("record 2", t.look(0, 5), 3);
+        int[] due = {0, 1, 2, 2, 3, 3, 3, 3};
+        for (int set = 0; set < 8; set++) {
+            TapTerminal t = Scene.withEmptyCard(16);
+            for (int r = 0; r <= 2; r++) {
+                if ((set >> r & 1) == 1) {
+                    t.write(0, r, 0);
+                }
+            }
+            Check.due("records of set " + set, t.look(0, 5), due[set]);
+        }
     }
 
-    private static void lookRefuses() {
+    private static void lookCountsCommandsOnce() {
         TapTerminal t = Scene.withGoodCard(16);
-        Check.due("card -1", t.look(-1, 0), -1);
-        Check.due("card 4", t.look(4, 0), -1);
-        Check.due("a card that is not there", t.look(1, 0), -1);
-        Check.due("what -1", t.look(0, -1), -1);
-        Check.due("what 6", t.look(0, 6), -1);
+        t.fault(3, 2);
+        t.fault(4, 2);
+        t.run(50, 9, 200);
+        Check.due("a command whose answer is said again", t.look(0, 4), 5);
+        t.fault(3, 1);
+        t.fault(4, 1);
+        t.fault(5, 1);
+        t.run(50, 9, 200);
+        Check.due("a command that is not heard", t.look(0, 4), 5);
     }
 }
