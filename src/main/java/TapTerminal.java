@@ -10,6 +10,7 @@ public final class TapTerminal {
     private static final int APPLICATIONS = 8;
     private static final int ADDRESS_BITS = 8;
     private static final int NOTED_EXCHANGES = 128;
+    private static final int GREATEST_INT = 2147483647;
 
     private static final int NO_FAULT = 0, NOT_HEARD = 1, ANSWER_NOT_HEARD = 2;
     private static final int WAKE = 1, ASK = 2, SELECT = 3, PUT_OFF = 4, I = 5, ACK = 6, NAK = 7;
@@ -385,7 +386,7 @@ public final class TapTerminal {
             key = newKey;
             size = newSize;
             counter = 0;
-            cap = Integer.MAX_VALUE;
+            cap = GREATEST_INT;
             limit = 255;
             runs = 0;
             commandsDone = 0;
@@ -715,12 +716,13 @@ public final class TapTerminal {
         }
 
         void take(Row record) {
-            if (!takePart(record, 0, record.count, 1)) {
+            if (!takePart(this, record, 0, record.count, 1)) {
                 whole = false;
             }
         }
 
-        private boolean takePart(Row row, int from, int to, int level) {
+        /** Takes items apart from a row's octets, down to the last level; false if one is not whole or lies deeper. */
+        private static boolean takePart(Items into, Row row, int from, int to, int level) {
             for (int i = from; i < to; i += 2 + row.at(i + 1)) {
                 int start = i + 2;
                 if (start > to || start + row.at(i + 1) > to) {
@@ -728,8 +730,8 @@ public final class TapTerminal {
                 }
                 int next = start + row.at(i + 1);
                 if (row.at(i) <= MOST_PLAIN_TAG) {
-                    keepFirst(row.at(i), row, start, next);
-                } else if (level == LEVELS || !takePart(row, start, next, level + 1)) {
+                    into.keepFirst(row.at(i), row, start, next);
+                } else if (level == LEVELS || !takePart(into, row, start, next, level + 1)) {
                     return false;
                 }
             }
